@@ -290,6 +290,8 @@ public final class TransitGate {
             return TABLE;
         }
         Maker.errorToSix(tape, out, owner, site);
+        Maker.withinToSix(tape, out, owner, site);
+        Sums.putPart(out, HEAD6);
         return MADE;
     }
 
@@ -316,15 +318,15 @@ public final class TransitGate {
         }
 
         int pair(int i) {
-            return octet(i) << 8 | octet(i + 1);
+            return (int) number(i, 2);
         }
 
         int quad(int i) {
-            return pair(i) << 16 | pair(i + 2);
+            return (int) number(i, 4);
         }
 
         long eight(int i) {
-            return (long) quad(i) << 32 | quad(i + 4) & 0xFFFFFFFFL;
+            return number(i, 8);
         }
 
         void put(int i, int value) {
@@ -334,18 +336,33 @@ public final class TransitGate {
         }
 
         void putPair(int i, int value) {
-            put(i, value >>> 8);
-            put(i + 1, value);
+            putNumber(i, 2, value);
         }
 
         void putQuad(int i, int value) {
-            putPair(i, value >>> 16);
-            putPair(i + 2, value);
+            putNumber(i, 4, value);
         }
 
         void putEight(int i, long value) {
-            putQuad(i, (int) (value >>> 32));
-            putQuad(i + 4, (int) value);
+            putNumber(i, 8, value);
+        }
+
+        private long number(int at, int many) {
+            long value = 0;
+            for (int k = 0; k < many; k++) {
+                int i = at + k;
+                value = value << 8 | (i >= 0 && i < length ? cells[i] & 255 : 0);
+            }
+            return value;
+        }
+
+        private void putNumber(int at, int many, long value) {
+            for (int k = 0; k < many; k++) {
+                int i = at + k;
+                if (i >= 0 && i < length) {
+                    cells[i] = (byte) (value >>> 8 * (many - 1 - k));
+                }
+            }
         }
 
         void copy(Bytes source, int from, int to, int many) {
@@ -492,6 +509,8 @@ public final class TransitGate {
         private long first;
         private long second;
         private int bits;
+        /** How many of the embedded 32 bits stand behind byte 8, with a prefix of 32 to 64. */
+        private int behindByte8;
 
         int bits() {
             return bits;
@@ -512,6 +531,7 @@ public final class TransitGate {
                 return false;
             }
             bits = length;
+            behindByte8 = length - 32;
             return true;
         }
 
@@ -519,7 +539,7 @@ public final class TransitGate {
             if (bits == 0 || bits == 96) {
                 return first;
             }
-            return first | (address & 0xFFFFFFFFL) >>> behindByte8();
+            return first | (address & 0xFFFFFFFFL) >>> behindByte8;
         }
 
         long embedLow(int address) {
@@ -527,7 +547,7 @@ public final class TransitGate {
             if (bits == 0 || bits == 96) {
                 return bits == 0 ? 0 : second | number;
             }
-            return (number & tailMask()) << 56 - behindByte8();
+            return (number & tailMask(behindByte8)) << 56 - behindByte8;
         }
 
         /** The embedded address as a number that is not below 0; -1 if there is none. */
@@ -540,8 +560,8 @@ public final class TransitGate {
             if (bits == 0 || (high & mask) != first || low >>> 56 != 0) {
                 return -1;
             }
-            int behind = behindByte8();
-            return (high & ~mask) << behind | low >>> 56 - behind & tailMask();
+            long tail = low >>> 56 - behindByte8 & tailMask(behindByte8);
+            return (high & ~mask) << behindByte8 | tail;
         }
 
         boolean covers(long high, long low) {
@@ -552,13 +572,8 @@ public final class TransitGate {
             return -1L << 64 - length;
         }
 
-        /** How many of the 32 bits stand behind byte 8, with a prefix of 32 to 64 bits. */
-        private int behindByte8() {
-            return bits - 32;
-        }
-
-        private long tailMask() {
-            return (1L << behindByte8()) - 1;
+        private static long tailMask(int many) {
+            return (1L << many) - 1;
         }
     }
 
@@ -1144,6 +1159,7 @@ public final class TransitGate {
             Sums.putPart(out, HEAD6);
         }
 
+        /** An error but for the packet within and the checksum over both. */
         static void errorToSix(Bytes in, Bytes out, Binding owner, Site site) {
             int whole = in.length() + 2 * (HEAD6 - HEAD4);
             out.resize(Math.min(whole, LEAST_MTU6));
@@ -1151,8 +1167,22 @@ public final class TransitGate {
             putEmbedded(out, 8, in.quad(12), site);
             putInner(out, 24, owner);
             putErrorKind(in, out);
-            putWithin(in, out, owner, site);
-            Sums.putPart(out, HEAD6);
+        }
+
+        /** The packet within an error, cut where the error ends; its checksums stay. */
+        static void withinToSix(Bytes in, Bytes out, Binding owner, Site site) {
+            int protocol = owner.protocol;
+            int payload = in.pair(WITHIN4 + 2) - HEAD4;
+            int part = WITHIN6 + HEAD6;
+            int traffic = in.octet(WITHIN4 + 1);
+            putSixHead(out, WITHIN6, traffic, payload, protocol, in.octet(WITHIN4 + 8));
+            putInner(out, WITHIN6 + 8, owner);
+            putEmbedded(out, WITHIN6 + 24, in.quad(WITHIN4 + 16), site);
+            out.copy(in, WITHIN4 + HEAD4, part, out.length() - part);
+            out.putPair(part + Part.sourcePortAt(protocol), owner.innerPort);
+            if (protocol == ICMP) {
+                out.put(part, ECHO6);
+            }
         }
 
         private static void putErrorKind(Bytes in, Bytes out) {
@@ -1177,21 +1207,6 @@ public final class TransitGate {
                 case 13:
                 case 15: return 1;
                 default: return 0;
-            }
-        }
-
-        private static void putWithin(Bytes in, Bytes out, Binding owner, Site site) {
-            int protocol = owner.protocol;
-            int payload = in.pair(WITHIN4 + 2) - HEAD4;
-            int part = WITHIN6 + HEAD6;
-            int traffic = in.octet(WITHIN4 + 1);
-            putSixHead(out, WITHIN6, traffic, payload, protocol, in.octet(WITHIN4 + 8));
-            putInner(out, WITHIN6 + 8, owner);
-            putEmbedded(out, WITHIN6 + 24, in.quad(WITHIN4 + 16), site);
-            out.copy(in, WITHIN4 + HEAD4, part, out.length() - part);
-            out.putPair(part + Part.sourcePortAt(protocol), owner.innerPort);
-            if (protocol == ICMP) {
-                out.put(part, ECHO6);
             }
         }
 

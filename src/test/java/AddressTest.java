@@ -95,8 +95,8 @@ public final class AddressTest {
 
     private static void ninetySixKeepsByteEight() {
         TransitGate gate = new TransitGate();
-        gate.prefix(Packets.SITE, 0xAB00000012345678L, 96);
-        Check.due("low with byte 8", gate.low(5), 0xAB00000000000005L);
+        gate.prefix(Packets.SITE, 0xAB000000FFFFFFFFL, 96);
+        Check.due("low with byte 8", gate.low(4), 0xAB00000000000004L);
         Check.due("drawn with byte 8", gate.drawn(Packets.SITE, 0xAB00000000000005L), 5);
         Check.due("drawn without it", gate.drawn(Packets.SITE, 5), -1);
         Check.due("drawn elsewhere", gate.drawn(Packets.SITE + 1, 0xAB00000000000005L), -1);

@@ -21,6 +21,7 @@ public final class ErrorTest {
         nothingIsTouched();
         within();
         cutting();
+        nothingIsLeftOfTheLastPacket();
         Check.end();
     }
 
@@ -232,6 +233,23 @@ public final class ErrorTest {
             part = java.util.Arrays.copyOfRange(udp, 20, udp.length);
             want = turned(3, 1, udp, Packets.with(part, 0, 5000 >> 8, 5000 & 255), 1240);
             Check.same("length within " + length[1], Packets.out(gate), want);
+        }
+    }
+
+    private static void nothingIsLeftOfTheLastPacket() {
+        int[][] cases = {{3, 1, 1, 0}, {11, 1, 3, 1}};
+        for (int[] each : cases) {
+            TransitGate gate = gate();
+            byte[] data = new byte[600];
+            java.util.Arrays.fill(data, (byte) 0xff);
+            byte[] before = Packets.six(1, FAR, 17, Packets.udp(5000, 53, data));
+            Check.due("a packet ahead", Packets.inside(gate, before), 628);
+            byte[] udp = udpWithin();
+            Packets.outside(gate, error(each[0], each[1], udp));
+            byte[] part = java.util.Arrays.copyOfRange(udp, 20, udp.length);
+            part = Packets.with(part, 0, 5000 >> 8, 5000 & 255);
+            byte[] want = turned(each[2], each[3], udp, part, 1240);
+            Check.same("behind a packet of ones", Packets.out(gate), want);
         }
     }
 

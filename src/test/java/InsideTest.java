@@ -184,6 +184,7 @@ public final class InsideTest {
         due("not of the prefix", between(home, 1, site + 1, 0x08080808), PLACE);
         due("not of its last bit", between(home, 1, site, 0x108080808L), PLACE);
         due("from the prefix", between(site, 1, site, 0x08080808), PLACE);
+        due("from its least address", between(site, 0, site, 0x08080808), PLACE);
         due("from beside the prefix", between(site + 1, 1, site, 0x08080808), 28);
         int[] odd = {0, 127, 224, 255};
         for (int first : odd) {

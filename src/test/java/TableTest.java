@@ -226,7 +226,9 @@ public final class TableTest {
         udp(busy, 3, 5000, FAR);
         udp(busy, 4, 5000, FAR);
         udp(busy, 5, 5000, FAR);
-        Check.due("fewest of all protocols", busy.binding(5, 2), 1);
+        Check.due("the first host again", busy.binding(1, 2), 0);
+        Check.due("fewest of all protocols", busy.binding(2, 2), 1);
+        Check.due("of several the first", busy.binding(5, 2), 1);
         TransitGate late = Packets.gate();
         udp(late, 1, 5000, FAR);
         late.pool(POOL + 1);

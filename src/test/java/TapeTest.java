@@ -136,6 +136,11 @@ public final class TapeTest {
         gate.bend(20, 0xFF);
         gate.bend(21, 0xFF);
         Check.due("ICMP may be 0", gate.sign(33, 22), 0);
+        gate.bend(24, 0xFF);
+        gate.bend(25, 0xFF);
+        gate.bend(27, 1);
+        // 0xFFFF, 0xFFFF and 1: the first carry makes another one.
+        Check.due("carries are added again", gate.sign(33, 22), 65534);
     }
 
     private static void signingEdges() {
